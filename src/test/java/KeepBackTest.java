@@ -1,0 +1,223 @@
+/** Promises 24 and 25: keep and back. */
+public final class KeepBackTest {
+    public static void main(String[] args) {
+        nothingKept();
+        allComesBack();
+        whatIsKeptStays();
+        keepInPlaceOfWhatWas();
+        findingsGoOn();
+        newOnesBehindBackAreNew();
+        turnsComeBack();
+        Check.end();
+    }
+
+    private static void nothingKept() {
+        BagHall x = new BagHall();
+        Check.due("25: nothing is kept", x.back(), Check.NONE);
+        x.tick(5);
+        Check.due("25: still nothing", x.back(), Check.NONE);
+        Check.due("25: nothing changed", x.count(13), 5);
+        Check.due("24: THE TICK", x.keep(), 5);
+        Check.due("25: THE TICK", x.back(), 5);
+    }
+
+    private static BagHall hall() {
+        BagHall x = new BagHall();
+        x.point(Check.DESK, 0);
+        x.point(Check.MERGE, 0);
+        x.point(Check.SORTER, 0);
+        x.point(Check.STORE, 2);
+        x.point(Check.CHUTE, 0);
+        x.point(Check.CHUTE, 0);
+        x.belt(0, 1, 1);
+        x.belt(1, 2, 2);
+        x.belt(2, 3, 1);
+        x.belt(2, 4, 3);
+        x.belt(3, 4, 1);
+        x.belt(2, 5, 1);
+        x.flight(4, 12, 20);
+        x.flight(5, 0, 3);
+        for (int i = 0; i < 8; i++) {
+            x.bag(0, i % 3 == 2 ? 1 : 0, false);
+        }
+        return x;
+    }
+
+    /** All that can be asked of a hall, one answer behind the other. */
+    private static String all(BagHall x) {
+        StringBuilder told = new StringBuilder();
+        for (int what = 0; what <= 13; what++) {
+            told.append(' ').append(x.count(what));
+        }
+        for (int p = -1; p < 13; p++) {
+            told.append(" p").append(x.holds(p));
+            for (int i = -1; i < 61; i++) {
+                told.append(' ').append(x.list(p, i));
+            }
+            for (int q = 0; q < 12; q++) {
+                told.append(' ').append(x.far(p, q)).append(' ').append(x.route(p, q));
+            }
+            for (int kind = 0; kind < 6; kind++) {
+                told.append(' ').append(x.as(p, kind));
+            }
+        }
+        for (int b = 0; b < 17; b++) {
+            for (int cell = 0; cell < 13; cell++) {
+                told.append(' ').append(x.cell(b, cell));
+            }
+        }
+        for (int f = 0; f < 9; f++) {
+            for (int what = 0; what < 8; what++) {
+                told.append(' ').append(x.flown(f, what));
+            }
+        }
+        for (int bag = 0; bag < 61; bag++) {
+            told.append(" b").append(x.where(bag)).append(' ').append(x.place(bag));
+            told.append(' ').append(x.detail(bag)).append(' ').append(x.steps(bag));
+            for (int i = 0; i < 31; i++) {
+                told.append(' ').append(x.step(bag, i, true)).append(' ').append(x.step(bag, i, false));
+            }
+        }
+        return told.toString();
+    }
+
+    private static void disturb(BagHall x) {
+        x.tick(7);
+        x.point(Check.DESK, 0);
+        x.point(Check.CHUTE, 0);
+        x.belt(6, 7, 4);
+        x.belt(2, 7, 1);
+        x.flight(7, 3, 4);
+        x.bag(6, 2, true);
+        x.fall(3, true);
+        x.fall(4, true);
+        x.take(6);
+        x.take(7);
+        x.give(7, 6, true);
+        x.tick(9);
+    }
+
+    private static void allComesBack() {
+        for (int ticks = 1; ticks <= 30; ticks++) {
+            BagHall x = hall();
+            x.tick(ticks);
+            String before = all(x);
+            Check.due("24: THE TICK", x.keep(), ticks);
+            Check.holds("24: keep changes nothing behind " + ticks, all(x).equals(before));
+            disturb(x);
+            Check.holds("24: and does not hinder", !all(x).equals(before));
+            Check.due("25: THE TICK", x.back(), ticks);
+            Check.holds("25: all is as it was behind " + ticks, all(x).equals(before));
+            BagHall y = hall();
+            y.tick(ticks);
+            disturb(x);
+            disturb(y);
+            Check.holds("25: and goes on so behind " + ticks, all(x).equals(all(y)));
+        }
+    }
+
+    private static void whatIsKeptStays() {
+        BagHall x = hall();
+        x.tick(6);
+        String before = all(x);
+        x.keep();
+        for (int i = 0; i < 3; i++) {
+            disturb(x);
+            Check.due("25: back once more", x.back(), 6);
+            Check.holds("25: as it was", all(x).equals(before));
+        }
+    }
+
+    private static void keepInPlaceOfWhatWas() {
+        BagHall x = hall();
+        x.keep();
+        x.tick(8);
+        String before = all(x);
+        Check.due("24: the second", x.keep(), 8);
+        disturb(x);
+        Check.due("25: to the second", x.back(), 8);
+        Check.holds("25: as it was then", all(x).equals(before));
+    }
+
+    private static void findingsGoOn() {
+        BagHall x = hall();
+        x.where(-1);
+        x.where(-1);
+        x.keep();
+        x.where(-1);
+        x.where(-1);
+        x.where(-1);
+        x.back();
+        Check.due("23: findings go on with back", x.count(14), 5);
+        x.where(-1);
+        x.back();
+        Check.due("23: and go on", x.count(14), 6);
+    }
+
+    private static void newOnesBehindBackAreNew() {
+        BagHall x = new BagHall();
+        x.point(Check.DESK, 0);
+        x.point(Check.CHUTE, 0);
+        x.flight(1, 0, 9);
+        x.keep();
+        x.point(Check.MERGE, 0);
+        x.belt(0, 2, 3);
+        x.belt(2, 1, 1);
+        x.fall(1, true);
+        x.turns(0, 7);
+        x.bag(0, 0, true);
+        x.tick(9);
+        Check.due("25: the merge holds it", x.holds(2), 0);
+        x.back();
+        Check.due("25: no point 2", x.holds(2), Check.BEYOND);
+        Check.due("25: no belt 0", x.cell(0, 0), Check.BEYOND);
+        Check.due("25: no bag 0", x.where(0), Check.BEYOND);
+        Check.due("25: none FALLEN", x.count(12), 0);
+        Check.due("2: point 2 is new", x.point(Check.MERGE, 0), 2);
+        Check.due("2: it holds none", x.holds(2), Check.NONE);
+        Check.due("3: belt 0 is new", x.belt(0, 2, 12), 0);
+        Check.due("3: with its TURNS", x.turns(0, 1), 1);
+        Check.due("3: belt 1 is new", x.belt(2, 1, 12), 1);
+        Check.due("3: sound", x.fall(1, true), 1);
+        for (int cell = 0; cell < 12; cell++) {
+            Check.due("3: empty", x.cell(0, cell), Check.NONE);
+        }
+        Check.due("8: bag 0 is new", x.bag(0, 0, false), 0);
+        Check.due("8: without steps", x.steps(0), 0);
+        Check.due("8: it waits", x.where(0), 0);
+        Check.due("8: alone", x.list(0, -1), 1);
+        Check.due("20: new ways", x.far(0, 1), Check.NONE);
+    }
+
+    private static void turnsComeBack() {
+        BagHall x = new BagHall();
+        x.point(Check.DESK, 0);
+        x.point(Check.DESK, 0);
+        x.point(Check.MERGE, 0);
+        x.point(Check.CHUTE, 0);
+        x.belt(0, 2, 1);
+        x.belt(1, 2, 1);
+        x.belt(2, 3, 1);
+        x.flight(3, 0, 99);
+        for (int i = 0; i < 10; i++) {
+            x.bag(0, 0, false);
+        }
+        for (int i = 0; i < 10; i++) {
+            x.bag(1, 0, false);
+        }
+        x.turns(0, 3);
+        x.turns(1, 2);
+        Check.due("24: one of three turns", Check.nextHeld(x, 2, 2), 0);
+        Check.due("24: two of three turns", Check.nextHeld(x, 2, 2), 1);
+        x.keep();
+        Check.due("24: three of three", Check.nextHeld(x, 2, 2), 2);
+        Check.due("24: the other", Check.nextHeld(x, 2, 2), 10);
+        x.turns(0, 0);
+        x.back();
+        Check.due("25: TURNS as they were", x.turns(0, 3), 3);
+        Check.due("25: one was left", Check.nextHeld(x, 2, 2), 2);
+        Check.due("25: then none", Check.nextHeld(x, 2, 2), 10);
+        Check.due("25: the other has two", Check.nextHeld(x, 2, 2), 11);
+        Check.due("25: and the first again", Check.nextHeld(x, 2, 2), 3);
+    }
+}
