@@ -732,7 +732,7 @@ public final class BagHall {
         }
 
         void addStep(int tick, int point) {
-            if (stepCount < way.length) {
+            if (stepCount >= 0 && stepCount < way.length) {
                 way[stepCount] = tick * MAX_POINTS + point;
             }
             stepCount++;

@@ -7,6 +7,7 @@ public final class KeepBackTest {
         keepInPlaceOfWhatWas();
         findingsGoOn();
         newOnesBehindBackAreNew();
+        fallenAndDoubtfulComeBack();
         turnsComeBack();
         Check.end();
     }
@@ -189,6 +190,32 @@ public final class KeepBackTest {
         Check.due("20: new ways", x.far(0, 1), Check.NONE);
     }
 
+    private static void fallenAndDoubtfulComeBack() {
+        BagHall x = new BagHall();
+        x.point(Check.DESK, 0);
+        x.point(Check.SCREEN, 1);
+        x.point(Check.CHUTE, 0);
+        x.belt(0, 1, 1);
+        x.belt(1, 2, 1);
+        x.belt(1, 2, 9);
+        x.flight(2, 0, 99);
+        x.bag(0, 0, true);
+        x.fall(0, true);
+        x.keep();
+        x.fall(0, false);
+        x.take(0);
+        x.give(0, 0, false);
+        x.tick(5);
+        Check.due("10: not DOUBTFUL any more", x.where(0), 5);
+        x.back();
+        Check.due("25: FALLEN again", x.count(12), 1);
+        Check.due("25: that belt", x.fall(0, true), 0);
+        x.fall(0, false);
+        x.tick(5);
+        Check.due("25: DOUBTFUL again", x.place(0), 2);
+        Check.due("25: on its belt", x.where(0), 1);
+    }
+
     private static void turnsComeBack() {
         BagHall x = new BagHall();
         x.point(Check.DESK, 0);
@@ -206,7 +233,7 @@ public final class KeepBackTest {
             x.bag(1, 0, false);
         }
         x.turns(0, 3);
-        x.turns(1, 2);
+        x.turns(1, 4);
         Check.due("24: one of three turns", Check.nextHeld(x, 2, 2), 0);
         Check.due("24: two of three turns", Check.nextHeld(x, 2, 2), 1);
         x.keep();
@@ -217,7 +244,9 @@ public final class KeepBackTest {
         Check.due("25: TURNS as they were", x.turns(0, 3), 3);
         Check.due("25: one was left", Check.nextHeld(x, 2, 2), 2);
         Check.due("25: then none", Check.nextHeld(x, 2, 2), 10);
-        Check.due("25: the other has two", Check.nextHeld(x, 2, 2), 11);
+        for (int bag = 11; bag < 14; bag++) {
+            Check.due("25: the other has four", Check.nextHeld(x, 2, 2), bag);
+        }
         Check.due("25: and the first again", Check.nextHeld(x, 2, 2), 3);
     }
 }
