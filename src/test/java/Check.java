@@ -16,15 +16,25 @@ final class Check {
 
     private static int asked = 0;
     private static int wrong = 0;
+    private static String about = "";
 
     private Check() {
+    }
+
+    /** What the answers from now on are about: it is told ahead of each that is not as due. */
+    static void about(String words) {
+        about = words;
+    }
+
+    static int wrong() {
+        return wrong;
     }
 
     static void due(String what, int got, int want) {
         asked++;
         if (got != want) {
             wrong++;
-            System.out.println(what + " answered " + got + ", due is " + want);
+            System.out.println(about + what + " answered " + got + ", due is " + want);
         }
     }
 
@@ -32,7 +42,7 @@ final class Check {
         asked++;
         if (!is) {
             wrong++;
-            System.out.println(what + " does not hold");
+            System.out.println(about + what + " does not hold");
         }
     }
 
