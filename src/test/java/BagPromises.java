@@ -331,6 +331,29 @@ final class BagPromises {
         y.take(59);
         y.give(59, 11, false);
         Check.due("the highest point", y.place(59), 11);
+        BagHall z = Halls.of(Check.CHUTE, 0, Check.SORTER, 0, Check.DESK, 0);
+        Halls.belts(z, 1, 0, 1, 2, 1, 1);
+        z.flight(0, 0, 99);
+        z.bag(2, 0, false);
+        int[] places = {2, 1, 1, 0, 0};
+        int[] where = {0, 1, 2, 1, 5};
+        for (int ticks = 0; ticks < 5; ticks++) {
+            Halls.goTo(z, ticks);
+            Check.due("where behind " + ticks, z.where(0), where[ticks]);
+            Check.due("desk 2, belt 1, point 1, belt 0, chute 0", z.place(0), places[ticks]);
+        }
+        BagHall other = Halls.of(Check.CHUTE, 0, Check.DESK, 0, Check.DESK, 0);
+        Halls.belts(other, 1, 0, 9, 2, 0, 9, 2, 0, 9);
+        other.flight(0, 0, 99);
+        other.bag(2, 0, false);
+        other.fall(1, true);
+        other.tick(1);
+        Check.due("on belt 2 of desk 2", other.place(0), 2);
+        other.take(0);
+        other.give(0, 2, false);
+        other.fall(1, false);
+        other.tick(1);
+        Check.due("on belt 1 of desk 2", other.place(0), 1);
     }
 
     private static void placeInHand() {
@@ -414,6 +437,7 @@ final class BagPromises {
         for (int bag : Halls.outside(0, 2)) {
             Check.due("bag " + bag, x.detail(bag), Check.BEYOND);
         }
+        Check.due("these are findings", x.count(14), 1 + Halls.outside(0, 2).length);
     }
 
     private static void detailInHand() {

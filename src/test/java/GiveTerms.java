@@ -129,6 +129,9 @@ final class GiveTerms {
         x.tick(2);
         Check.due("bag 2 was taken: bag 0", x.cell(0, 0), 0);
         Check.due("none waits any more", x.list(0, -1), 0);
+        x.tick(5);
+        Check.due("none waits, none comes again", x.cell(0, 0), Check.NONE);
+        Check.due("none came again", x.steps(0), 2);
     }
 
     private static void deskByItsLowestSoundOutlet() {
@@ -238,14 +241,14 @@ final class GiveTerms {
             BagHall x = screenWith(false, outlets);
             Check.due("it holds the bag", x.holds(1), 0);
             x.tick(1);
-            Check.due("the lowest of " + outlets, x.place(0), 1);
+            Check.due("the lowest of " + outlets, x.cell(1, 0), 0);
         }
         BagHall y = screenWith(false, 0);
         y.tick(9);
         Check.due("without an OUTLET it holds", y.holds(1), 0);
         Check.due("a new OUTLET", y.belt(1, 2, 1), 1);
         y.tick(1);
-        Check.due("then it goes", y.place(0), 1);
+        Check.due("then it goes", y.cell(1, 0), 0);
     }
 
     private static void doubtfulByTheSecondLowest() {
@@ -254,12 +257,14 @@ final class GiveTerms {
             BagHall x = screenWith(true, outlets);
             Check.due("it holds the bag", x.holds(1), 0);
             x.tick(1);
-            Check.due("DOUBTFUL, of " + outlets, x.place(0), due[outlets - 1]);
+            Check.due("DOUBTFUL, of " + outlets, x.cell(due[outlets - 1], 0), 0);
         }
-        BagHall y = screenWith(true, 2);
-        y.fall(1, true);
-        y.tick(1);
-        Check.due("the second lowest, though the lowest is FALLEN", y.place(0), 2);
+        for (int outlets = 2; outlets <= 3; outlets++) {
+            BagHall y = screenWith(true, outlets);
+            y.fall(1, true);
+            y.tick(1);
+            Check.due("the second lowest of " + outlets + ", though the lowest is FALLEN", y.cell(2, 0), 0);
+        }
         BagHall z = screenWith(true, 0);
         z.tick(9);
         Check.due("DOUBTFUL, without an OUTLET it is held", z.holds(1), 0);
@@ -272,14 +277,14 @@ final class GiveTerms {
         Check.due("FALLEN: it waits, though others are sound", x.holds(1), 0);
         x.fall(1, false);
         x.tick(1);
-        Check.due("mended: it goes", x.place(0), 1);
+        Check.due("mended: it goes", x.cell(1, 0), 0);
         BagHall y = screenWith(true, 3);
         y.fall(2, true);
         y.tick(9);
         Check.due("DOUBTFUL, FALLEN: it waits", y.holds(1), 0);
         y.fall(2, false);
         y.tick(1);
-        Check.due("DOUBTFUL, mended: it goes", y.place(0), 2);
+        Check.due("DOUBTFUL, mended: it goes", y.cell(2, 0), 0);
         for (int i = 0; i < 2; i++) {
             boolean doubtful = i == 1;
             int outlet = doubtful ? 2 : 1;
@@ -340,6 +345,17 @@ final class GiveTerms {
         x.fall(5, true);
         x.tick(3);
         Check.due("not to the CHUTE of another flight", x.holds(1), 0);
+        // A short OUTLET with a long way behind it, and a long one straight there.
+        int[][] outlets = {{1, 2, 3, 1, 3, 1, 3, 2, 9}, {1, 3, 1, 3, 2, 9, 1, 2, 3}};
+        int[] due = {1, 3};
+        for (int i = 0; i < 2; i++) {
+            BagHall y = Halls.of(Check.DESK, 0, Check.SORTER, 0, Check.CHUTE, 0, Check.STORE, 1);
+            y.belt(0, 1, 1);
+            Halls.belts(y, outlets[i]);
+            y.flight(2, 0, 99);
+            y.bag(0, 0, false);
+            Check.due("3 is less than 1 + 9", sentBy(y), due[i]);
+        }
     }
 
     private static void sorterOfSeveralTheLowest() {
@@ -386,7 +402,7 @@ final class GiveTerms {
         Check.due("a FALLEN way", x.holds(1), 0);
         x.fall(3, false);
         x.tick(1);
-        Check.due("a way that is mended", x.place(0), 2);
+        Check.due("a way that is mended", x.cell(2, 0), 0);
     }
 
     /** STORE 1 with OUTLETS 1 and 2 to CHUTE 2; bag and flight i have the i-th OPENING. */
@@ -460,17 +476,17 @@ final class GiveTerms {
     private static void storeByItsLowestSoundOutlet() {
         BagHall x = store(5, 5, 5);
         x.tick(6);
-        Check.due("the lowest", x.place(0), 1);
+        Check.due("the lowest", x.cell(1, 0), 0);
         x.fall(1, true);
         x.tick(1);
-        Check.due("the lowest is FALLEN: the next", x.place(1), 2);
+        Check.due("the lowest is FALLEN: the next", x.cell(2, 0), 1);
         BagHall y = store(5, 5);
         Halls.fall(y, true, 1, 2);
         y.tick(20);
         Check.due("all are FALLEN: it stays", y.where(0), 3);
         y.fall(2, false);
         y.tick(1);
-        Check.due("one is mended", y.place(0), 2);
+        Check.due("one is mended", y.cell(2, 0), 0);
         BagHall z = Halls.deskTo(Check.STORE, 5);
         z.bag(0, 0, false);
         z.tick(20);

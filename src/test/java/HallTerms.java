@@ -125,7 +125,6 @@ final class HallTerms {
         Check.due("flown: flight BEYOND", x.flown(8, 0), Check.BEYOND);
     }
 
-    /** A refused act, its finding, and whether it is asked of a hall in which all rows are full. */
     private static void refusedActsChangeNothing() {
         refused("point, BEYOND", Check.BEYOND, x -> x.point(6, 1));
         refused("point, BEYOND of v", Check.BEYOND, x -> x.point(Check.STORE, 21));
@@ -151,7 +150,8 @@ final class HallTerms {
         refused("take, TAKEN", Check.TAKEN, x -> x.take(40));
         refused("give, BEYOND", Check.BEYOND, x -> x.give(40, 12, true));
         refused("give, KIND", Check.KIND, x -> x.give(40, 2, true));
-        refused("give, NONE", Check.NONE, x -> x.give(59, 0, true));
+        refused("give, NONE, a bag that waits", Check.NONE, x -> x.give(59, 0, true));
+        refused("give, NONE, a bag ahead of a SCREEN", Check.NONE, x -> x.give(10, 0, true));
         refused("where, BEYOND", Check.BEYOND, x -> x.where(60));
         refused("place, BEYOND", Check.BEYOND, x -> x.place(60));
         refused("detail, BEYOND", Check.BEYOND, x -> x.detail(60));
@@ -184,6 +184,7 @@ final class HallTerms {
         Check.due("behind it the bag is where it was", bare.holds(1), 0);
     }
 
+    /** The act must answer the finding, and the hall must be, go on and come back as it does without the act. */
     private static void refused(String name, int finding, ToIntFunction<BagHall> act) {
         BagHall sample = Halls.fullAndBusy();
         Check.due(name, act.applyAsInt(sample), finding);
@@ -200,7 +201,8 @@ final class HallTerms {
 
     private static BagHall later(Snapshot.Recipe recipe) {
         BagHall x = recipe.make();
-        x.tick(31);
+        Halls.fall(x, false, 6, 12);
+        x.tick(60);
         return x;
     }
 
@@ -240,6 +242,27 @@ final class HallTerms {
         }
         Check.due("kind -1", x.point(-1, 1), Check.BEYOND);
         Check.due("kind 6", x.point(6, 1), Check.BEYOND);
+        eachKindIsWhatItIsCalled();
+    }
+
+    /** Which calls a point takes tells what it is. */
+    private static void eachKindIsWhatItIsCalled() {
+        for (int kind = 0; kind <= 5; kind++) {
+            BagHall x = Halls.of(kind, 1, Check.SORTER, 0, Check.CHUTE, 0);
+            x.flight(2, 0, 9);
+            Check.holds("0 is DESK: bags wait there, kind " + kind, (x.bag(0, 0, false) == 0) == (kind == 0));
+            Check.holds("0 is DESK: no belt leads there, kind " + kind, (x.belt(1, 0, 1) == Check.KIND) == (kind == 0));
+            Check.holds("1 is MERGE: INLETS have TURNS, kind " + kind, (x.turns(0, 1) == 1) == (kind == 1));
+            Check.holds("1, 2, 3 hold a bag or none, kind " + kind,
+                (x.holds(0) == Check.NONE) == (kind >= 1 && kind <= 3));
+            Check.holds("2 is SCREEN: at most 9, kind " + kind, (x.point(kind, 10) == Check.BEYOND) == (kind == 2));
+            Check.holds("2 and 4 have a value, kind " + kind,
+                (x.point(kind, 21) == Check.BEYOND) == (kind == 2 || kind == 4));
+            Check.holds("3 is SORTER: it has routes, kind " + kind, (x.route(0, 0) == Check.NONE) == (kind == 3));
+            Check.holds("0 and 4 have lists, kind " + kind, (x.list(0, -1) >= 0) == (kind == 0 || kind == 4));
+            Check.holds("5 is CHUTE: it has flights, kind " + kind, (x.flight(0, 0, 9) == 1) == (kind == 5));
+            Check.holds("5 is CHUTE: no belt leads from it, kind " + kind, (x.belt(0, 1, 1) == Check.KIND) == (kind == 5));
+        }
     }
 
     private static void ticksOfAScreen() {
@@ -392,6 +415,7 @@ final class HallTerms {
             {5000, 0}, {Integer.MIN_VALUE, 0}, {0, Integer.MIN_VALUE}, {Integer.MIN_VALUE, Integer.MIN_VALUE},
             {Integer.MAX_VALUE, Integer.MAX_VALUE}, {0, Integer.MAX_VALUE}, {Integer.MAX_VALUE, 0},
             {Integer.MIN_VALUE, Integer.MAX_VALUE}, {Integer.MAX_VALUE, Integer.MIN_VALUE},
+            {1, Integer.MIN_VALUE}, {5000, Integer.MIN_VALUE}, {5000, Integer.MAX_VALUE},
         };
         BagHall x = Halls.of(Check.CHUTE, 0);
         for (int[] ticks : wrong) {

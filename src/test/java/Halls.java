@@ -87,7 +87,7 @@ final class Halls {
      */
     static BagHall fullAndBusy() {
         BagHall x = of(Check.DESK, 0, Check.DESK, 0, Check.MERGE, 0, Check.SCREEN, 2, Check.SORTER, 0, Check.STORE, 3,
-            Check.CHUTE, 0, Check.CHUTE, 0, Check.MERGE, 0, Check.STORE, 20, Check.SORTER, 0, Check.DESK, 0);
+            Check.CHUTE, 0, Check.CHUTE, 0, Check.MERGE, 0, Check.STORE, 4, Check.SORTER, 0, Check.DESK, 0);
         belts(x, 0, 2, 2, 1, 2, 1, 2, 3, 2, 3, 4, 1, 3, 2, 3, 4, 6, 2, 4, 7, 3, 4, 5, 1);
         belts(x, 5, 4, 1, 4, 8, 1, 8, 6, 1, 11, 9, 1, 9, 7, 1, 11, 10, 1, 8, 2, 12, 2, 10, 12);
         for (int i = 0; i < 8; i++) {

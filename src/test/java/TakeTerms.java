@@ -185,6 +185,10 @@ final class TakeTerms {
         Check.due("FALLEN ones are not", nextInlets(x, 4), 2323);
         x.fall(0, false);
         Check.due("mended ones are", nextInlets(x, 3), 123);
+        BagHall middle = fullMerge(1, 1, 1);
+        middle.tick(1);
+        middle.fall(1, true);
+        Check.due("not one in the middle that has a bag and is FALLEN", nextInlets(middle, 5), 13131);
         BagHall fallenLater = merge();
         fallenLater.bag(0, 0, false);
         fallenLater.bag(1, 0, false);
@@ -322,6 +326,10 @@ final class TakeTerms {
             Halls.fall(y, true, 0, 1);
             y.tick(9);
             Check.due("kind " + kind + ", all are FALLEN", y.holds(2), Check.NONE);
+            Check.due("kind " + kind + ", the bags stay on them", y.cell(0, 0) + y.cell(1, 0), 1);
+            y.fall(1, false);
+            y.tick(1);
+            Check.due("kind " + kind + ", the other one is mended", y.holds(2), 1);
             BagHall z = Halls.of(Check.DESK, 0, Check.DESK, 0, kind, 1, Check.CHUTE, 0);
             Halls.belts(z, 0, 2, 4, 1, 2, 2);
             z.flight(3, 0, 99);
@@ -332,6 +340,14 @@ final class TakeTerms {
             z.tick(9);
             Check.due("kind " + kind + ", without an OUTLET", z.holds(2), 1);
             Check.due("kind " + kind + ", the other stays in its last cell", z.cell(0, 3), 0);
+            BagHall first = Halls.of(Check.DESK, 0, Check.DESK, 0, kind, 1, Check.CHUTE, 0);
+            Halls.belts(first, 0, 2, 4, 1, 2, 2);
+            first.flight(3, 0, 99);
+            first.bag(1, 0, false);
+            first.tick(1);
+            first.bag(0, 0, false);
+            first.tick(1);
+            Check.due("kind " + kind + ", the lowest has one in cell 0 alone", first.holds(2), 0);
             BagHall none = Halls.of(kind, 1, Check.CHUTE, 0);
             none.belt(0, 1, 1);
             none.tick(9);
@@ -497,6 +513,19 @@ final class TakeTerms {
             Check.due("kind " + kind + ": bag 1 is given, bag 0 is taken", y.place(0), 2);
             Check.due("kind " + kind + ": bag 1 lies", y.cell(0, 0), 1);
         }
+        // The same of a MERGE with turns left for the INLET that is not READY.
+        BagHall turns = twoInlets(Check.MERGE, 0);
+        turns.turns(0, 2);
+        turns.bag(0, 0, false);
+        turns.fall(2, true);
+        turns.tick(2);
+        turns.bag(1, 0, false);
+        turns.tick(2);
+        Check.due("bag 0 is held, INLET 0 has a turn left", turns.holds(2), 0);
+        turns.fall(2, false);
+        turns.bag(0, 0, false);
+        turns.tick(1);
+        Check.due("bag 2 is given, bag 1 is taken", turns.holds(2), 1);
         for (int kind = Check.MERGE; kind <= Check.STORE; kind++) {
             BagHall z = Halls.deskTo(kind, 1);
             z.belt(1, 2, 1);

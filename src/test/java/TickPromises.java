@@ -581,6 +581,17 @@ final class TickPromises {
             Check.holds("answer " + i + " is a finding: " + answers[i], answers[i] < 0);
         }
         Check.due("each call that can refuse counts", x.count(14), answers.length);
+        BagHall y = Halls.of(Check.DESK, 0, Check.MERGE, 0, Check.SORTER, 0, Check.CHUTE, 0);
+        int[] good = {
+            y.point(0, 0), y.belt(0, 1, 1), y.belt(1, 2, 1), y.belt(2, 3, 1), y.as(1, 1), y.turns(0, 1), y.flight(3, 0, 0),
+            y.fall(0, false), y.bag(0, 0, false), y.take(0), y.give(0, 0, true), y.where(0), y.detail(0), y.steps(0),
+            y.tick(2), y.step(0, 0, true), y.step(0, 1, false), y.holds(1), y.tick(1), y.cell(1, 0), y.list(0, -1),
+            y.far(0, 3), y.route(2, 0), y.flown(0, 6), y.count(14), y.keep(), y.back(), y.place(0),
+        };
+        for (int i = 0; i < good.length; i++) {
+            Check.holds("answer " + i + " is no finding: " + good[i], good[i] >= 0);
+        }
+        Check.due("none of these counts", y.count(14), 0);
     }
 
     private static void countBeyond() {
@@ -614,10 +625,26 @@ final class TickPromises {
         x.tick(9);
     }
 
+    /** All that disturb left changes once more. */
+    private static void disturbMore(BagHall x) {
+        x.tick(5);
+        x.point(Check.STORE, 3);
+        x.belt(3, 8, 1);
+        x.flight(5, 0, 1);
+        x.bag(6, 2, false);
+        x.fall(3, false);
+        x.fall(0, true);
+        x.turns(0, 4);
+        x.give(3, 0, true);
+        x.take(4);
+        x.tick(12);
+    }
+
     /** A line with bags, TURNS and a FALLEN belt, behind so many ticks. */
     private static BagHall busyLine(int ticks) {
         BagHall x = Halls.line(2, 9, 20);
         x.belt(3, 5, 12);
+        x.belt(2, 5, 3);
         x.turns(0, 2);
         Halls.bags(x, 0, 0, 6);
         x.bag(0, 0, true);
@@ -646,7 +673,7 @@ final class TickPromises {
                 y.keep();
                 disturb(y);
                 y.keep();
-                y.tick(5);
+                disturbMore(y);
                 y.back();
                 return y;
             };
@@ -682,24 +709,26 @@ final class TickPromises {
                 x.keep();
                 return x;
             };
-            Snapshot.Recipe disturbed = () -> {
+            Snapshot.Recipe once = () -> {
                 BagHall x = kept.make();
                 disturb(x);
                 x.back();
                 return x;
             };
             Snapshot.Recipe again = () -> {
-                BagHall x = disturbed.make();
+                BagHall x = once.make();
                 disturb(x);
                 x.tick(50);
                 x.back();
                 return x;
             };
             String due = Snapshot.of(kept);
-            Check.holds("all is as it was behind " + ticks, Snapshot.of(disturbed).equals(due));
+            Check.holds("all is as it was behind " + ticks, Snapshot.of(once).equals(due));
             Check.holds("what is kept stays behind " + ticks, Snapshot.of(again).equals(due));
+            String disturbedLater = Snapshot.of(() -> disturbed(kept));
+            Check.holds("all goes on so behind " + ticks, Snapshot.of(() -> disturbed(again)).equals(disturbedLater));
             String later = Snapshot.of(() -> goneOn(kept));
-            Check.holds("all goes on so behind " + ticks, Snapshot.of(() -> goneOn(again)).equals(later));
+            Check.holds("all comes to an end so behind " + ticks, Snapshot.of(() -> goneOn(again)).equals(later));
         }
         BagHall x = busyLine(5);
         x.keep();
@@ -712,9 +741,17 @@ final class TickPromises {
         turnsComeBack();
     }
 
-    private static BagHall goneOn(Snapshot.Recipe recipe) {
+    private static BagHall disturbed(Snapshot.Recipe recipe) {
         BagHall x = recipe.make();
         disturb(x);
+        return x;
+    }
+
+    /** Until all bags that have a way are at their CHUTE. */
+    private static BagHall goneOn(Snapshot.Recipe recipe) {
+        BagHall x = recipe.make();
+        x.fall(1, false);
+        x.tick(70);
         return x;
     }
 
@@ -734,6 +771,12 @@ final class TickPromises {
             }
             x.turns(0, times);
             x.turns(1, 9);
+            x.back();
+        }
+        for (int times = due.length - 1; times > 0; times--) {
+            for (int i = 0; i < times; i++) {
+                Check.due("as often as you like", Check.nextHeld(x, 2, 2), due[i]);
+            }
             x.back();
         }
     }

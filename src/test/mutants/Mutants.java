@@ -32,6 +32,7 @@ public final class Mutants {
         String sentence;
         String old = "";
         String broken = "";
+        boolean told = false;
         String fault = null;
     }
 
@@ -102,7 +103,7 @@ public final class Mutants {
             } else if (line.startsWith("?")) {
                 unseen.add(sentence);
             } else if (line.startsWith("-")) {
-                if (last == null || !last.broken.isEmpty()) {
+                if (last == null || last.told) {
                     last = new Mutant();
                     last.sentence = sentence;
                     mutants.add(last);
@@ -110,6 +111,7 @@ public final class Mutants {
                 last.old = plain(last.old + " " + text);
             } else if (line.startsWith("+") && last != null) {
                 last.broken = plain(last.broken + " " + text);
+                last.told = true;
             }
         }
         return mutants;
