@@ -22,9 +22,13 @@ public final class FaceTest {
     };
 
     private static final String[] FORBIDDEN = {
-        "throw", "throws", "try", "catch", "synchronized", "assert", "import", "package", "volatile", "native", "->",
+        "throw", "throws", "try", "catch", "synchronized", "assert", "package", "volatile", "native", "->",
         "::", "System.out", "Object", "Random", "Thread",
     };
+
+    /** What rule 4 lets the program use that is not of java.lang. */
+    private static final List<String> IMPORTS = List.of("java.util.ArrayList", "java.util.List", "java.util.Arrays",
+        "java.util.Iterator");
 
     public static void main(String[] args) throws IOException {
         face();
@@ -94,6 +98,11 @@ public final class FaceTest {
         String text = Files.readString(Path.of("src/main/java/BagHall.java"), StandardCharsets.UTF_8);
         Check.holds("signs 1 to 127", text.chars().allMatch(sign -> sign > 0 && sign < 128));
         String code = text.replaceAll("(?s)/\\*.*?\\*/", " ").replaceAll("//[^\n]*", " ");
+        for (String line : code.split("\n")) {
+            if (line.trim().startsWith("import ")) {
+                Check.holds(line + " is of rule 4", IMPORTS.contains(line.replace("import ", "").replace(";", "").trim()));
+            }
+        }
         for (String word : FORBIDDEN) {
             boolean isWord = Character.isLetter(word.charAt(0));
             String pattern = isWord ? "(?s).*\\b" + word.replace(".", "\\.") + "\\b.*" : "(?s).*" + word + ".*";

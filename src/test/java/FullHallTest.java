@@ -126,15 +126,15 @@ public final class FullHallTest {
         x.belt(1, 2, 1);
         x.belt(2, 1, 1);
         x.flight(3, 0, 9);
-        for (int i = 0; i < 500; i++) {
+        for (int i = 0; i < 490; i++) {
             x.tick(100);
         }
         x.bag(0, 0, false);
-        Check.due("16: THE TICK", x.tick(100), 50100);
-        Check.due("15: a late tick", x.step(0, 0, true), 50000);
+        Check.due("16: THE TICK", x.tick(100), 49100);
+        Check.due("15: a late tick", x.step(0, 0, true), 49000);
         Check.due("15: its point", x.step(0, 0, false), 0);
-        Check.due("15: the last kept", x.step(0, 29, true), 50057);
+        Check.due("15: the last kept", x.step(0, 29, true), 49057);
         Check.due("15: its point", x.step(0, 29, false), 1);
-        Check.due("13: came at", x.detail(0), 50099);
+        Check.due("13: came at", x.detail(0), 49099);
     }
 }

@@ -268,6 +268,19 @@ final class GiveTerms {
         BagHall z = screenWith(true, 0);
         z.tick(9);
         Check.due("DOUBTFUL, without an OUTLET it is held", z.holds(1), 0);
+        // SCREEN 0 has one OUTLET, belt 0, of all belts that there can be, and of a few.
+        int[] others = {2, 15};
+        for (int more : others) {
+            BagHall x = Halls.of(Check.SCREEN, 1, Check.CHUTE, 0, Check.DESK, 0);
+            x.belt(0, 1, 3);
+            for (int i = 0; i < more; i++) {
+                x.belt(2, 0, 1);
+            }
+            x.flight(1, 0, 99);
+            x.bag(2, 0, true);
+            x.tick(3);
+            Check.due("DOUBTFUL, one OUTLET of " + (1 + more) + " belts", x.cell(0, 0), 0);
+        }
     }
 
     private static void screenWaitsForThatBelt() {

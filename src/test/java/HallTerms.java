@@ -477,6 +477,10 @@ final class HallTerms {
         Check.due("from 2", x.far(2, 3), 3);
         x.belt(0, 3, 1);
         Check.due("one cell is the least", x.far(0, 3), 1);
+        Halls.belts(x, 0, 2, 1, 1, 2, 12, 0, 1, 1, 2, 1, 1);
+        Check.due("longer ways that come later leave it, from 0", x.far(0, 3), 1);
+        Check.due("longer ways that come later leave it, from 1", x.far(1, 3), 5);
+        Check.due("longer ways that come later leave it, from 2", x.far(2, 3), 3);
         BagHall y = new BagHall();
         y.point(Check.DESK, 0);
         for (int i = 1; i < 11; i++) {

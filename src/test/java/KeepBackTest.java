@@ -44,44 +44,6 @@ public final class KeepBackTest {
         return x;
     }
 
-    /** All that can be asked of a hall, one answer behind the other. */
-    private static String all(BagHall x) {
-        StringBuilder told = new StringBuilder();
-        for (int what = 0; what <= 13; what++) {
-            told.append(' ').append(x.count(what));
-        }
-        for (int p = -1; p < 13; p++) {
-            told.append(" p").append(x.holds(p));
-            for (int i = -1; i < 61; i++) {
-                told.append(' ').append(x.list(p, i));
-            }
-            for (int q = 0; q < 12; q++) {
-                told.append(' ').append(x.far(p, q)).append(' ').append(x.route(p, q));
-            }
-            for (int kind = 0; kind < 6; kind++) {
-                told.append(' ').append(x.as(p, kind));
-            }
-        }
-        for (int b = 0; b < 17; b++) {
-            for (int cell = 0; cell < 13; cell++) {
-                told.append(' ').append(x.cell(b, cell));
-            }
-        }
-        for (int f = 0; f < 9; f++) {
-            for (int what = 0; what < 8; what++) {
-                told.append(' ').append(x.flown(f, what));
-            }
-        }
-        for (int bag = 0; bag < 61; bag++) {
-            told.append(" b").append(x.where(bag)).append(' ').append(x.place(bag));
-            told.append(' ').append(x.detail(bag)).append(' ').append(x.steps(bag));
-            for (int i = 0; i < 31; i++) {
-                told.append(' ').append(x.step(bag, i, true)).append(' ').append(x.step(bag, i, false));
-            }
-        }
-        return told.toString();
-    }
-
     private static void disturb(BagHall x) {
         x.tick(7);
         x.point(Check.DESK, 0);
@@ -98,46 +60,69 @@ public final class KeepBackTest {
         x.tick(9);
     }
 
+    private static BagHall behind(int ticks) {
+        BagHall x = hall();
+        x.tick(ticks);
+        return x;
+    }
+
+    private static BagHall kept(int ticks) {
+        BagHall x = behind(ticks);
+        x.keep();
+        return x;
+    }
+
+    private static BagHall keptAndBack(int ticks) {
+        BagHall x = kept(ticks);
+        disturb(x);
+        x.back();
+        return x;
+    }
+
+    private static BagHall disturbed(BagHall x) {
+        disturb(x);
+        return x;
+    }
+
     private static void allComesBack() {
-        for (int ticks = 1; ticks <= 30; ticks++) {
-            BagHall x = hall();
-            x.tick(ticks);
-            String before = all(x);
-            Check.due("24: THE TICK", x.keep(), ticks);
-            Check.holds("24: keep changes nothing behind " + ticks, all(x).equals(before));
-            disturb(x);
-            Check.holds("24: and does not hinder", !all(x).equals(before));
-            Check.due("25: THE TICK", x.back(), ticks);
-            Check.holds("25: all is as it was behind " + ticks, all(x).equals(before));
-            BagHall y = hall();
-            y.tick(ticks);
-            disturb(x);
-            disturb(y);
-            Check.holds("25: and goes on so behind " + ticks, all(x).equals(all(y)));
+        for (int i = 1; i <= 30; i++) {
+            int ticks = i;
+            Check.due("24: THE TICK", behind(ticks).keep(), ticks);
+            String kept = Snapshot.of(() -> kept(ticks));
+            String later = Snapshot.of(() -> disturbed(kept(ticks)));
+            Check.holds("24: keep does not hinder", !later.equals(kept));
+            Check.due("25: THE TICK", disturbed(kept(ticks)).back(), ticks);
+            Check.holds("25: all is as it was behind " + ticks, Snapshot.of(() -> keptAndBack(ticks)).equals(kept));
+            Check.holds("25: and goes on so behind " + ticks,
+                Snapshot.of(() -> disturbed(keptAndBack(ticks))).equals(later));
         }
     }
 
     private static void whatIsKeptStays() {
-        BagHall x = hall();
-        x.tick(6);
-        String before = all(x);
-        x.keep();
-        for (int i = 0; i < 3; i++) {
-            disturb(x);
-            Check.due("25: back once more", x.back(), 6);
-            Check.holds("25: as it was", all(x).equals(before));
+        String kept = Snapshot.of(() -> kept(6));
+        for (int i = 1; i <= 3; i++) {
+            int times = i;
+            Check.holds("25: as it was, " + times + " times", kept.equals(Snapshot.of(() -> {
+                BagHall x = kept(6);
+                for (int back = 0; back < times; back++) {
+                    disturb(x);
+                    Check.due("25: back once more", x.back(), 6);
+                }
+                return x;
+            })));
         }
     }
 
     private static void keepInPlaceOfWhatWas() {
-        BagHall x = hall();
-        x.keep();
-        x.tick(8);
-        String before = all(x);
-        Check.due("24: the second", x.keep(), 8);
-        disturb(x);
-        Check.due("25: to the second", x.back(), 8);
-        Check.holds("25: as it was then", all(x).equals(before));
+        Snapshot.Recipe twice = () -> {
+            BagHall x = kept(1);
+            x.tick(7);
+            Check.due("24: the second", x.keep(), 8);
+            disturb(x);
+            Check.due("25: to the second", x.back(), 8);
+            return x;
+        };
+        Check.holds("25: as it was then", Snapshot.of(twice).equals(Snapshot.of(() -> kept(8))));
     }
 
     private static void findingsGoOn() {

@@ -61,6 +61,11 @@ final class PlainModel {
         return points.get(point)[P_KIND];
     }
 
+    /** For a test that looks for a point of a kind; it is no call. */
+    int kindOf(int point) {
+        return in(points, point) ? kind(point) : -1;
+    }
+
     int call(String name, int a, int b, int c, boolean on) {
         switch (name) {
             case "point": return told(makePoint(a, b));

@@ -1,19 +1,21 @@
+import java.util.ArrayList;
+import java.util.Collections;
+import java.util.List;
 import java.util.Random;
 
-/** Long runs of calls by a fixed seed: each answer of BagHall must be that of PlainModel. */
+/** Runs of 512 calls by a fixed seed: each answer of BagHall must be that of PlainModel. */
 public final class RandomRunsTest {
-    private static final int RUNS = 600;
-    private static final int CALLS = 512;
+    private static final int RUNS = 3000;
+    /** So many calls of a run are left for questions at its end. */
+    private static final int LAST_QUESTIONS = 150;
 
     private static final String[] ASKS = {
         "as", "where", "place", "detail", "steps", "step", "cell", "holds", "list", "far", "route", "flown", "count",
     };
 
     private final Random random;
-    private final BagHall hall = new BagHall();
-    private final PlainModel model = new PlainModel();
-    private final StringBuilder told = new StringBuilder();
-    private boolean same = true;
+    private final Both both = new Both();
+    private final PlainModel model = both.model();
     private final int oddness;
 
     private RandomRunsTest(int seed) {
@@ -25,7 +27,7 @@ public final class RandomRunsTest {
         for (int seed = 1; seed <= RUNS; seed++) {
             RandomRunsTest run = new RandomRunsTest(seed);
             boolean same = run.go();
-            Check.holds("run " + seed + "\n" + run.told, same);
+            Check.holds("run " + seed + (same ? "" : "\n" + run.both.told()), same);
             if (!same) {
                 break;
             }
@@ -35,54 +37,15 @@ public final class RandomRunsTest {
 
     private boolean go() {
         build();
-        for (int i = 0; i < CALLS && same; i++) {
+        while (both.callsLeft() > LAST_QUESTIONS) {
             act();
         }
         askAll();
-        return same;
+        return both.same();
     }
 
-    /** Asks both, and answers what is due. */
-    private int call(String name, int a, int b, int c, boolean on) {
-        if (!same) {
-            return Check.BEYOND;
-        }
-        int want = model.call(name, a, b, c, on);
-        int got = callHall(name, a, b, c, on);
-        same = got == want;
-        told.append(name).append('(').append(a).append(", ").append(b).append(", ").append(c).append(", ").append(on)
-            .append(") answered ").append(got).append(same ? "" : ", due is " + want).append('\n');
-        return want;
-    }
-
-    private int callHall(String name, int a, int b, int c, boolean on) {
-        switch (name) {
-            case "point": return hall.point(a, b);
-            case "belt": return hall.belt(a, b, c);
-            case "as": return hall.as(a, b);
-            case "turns": return hall.turns(a, b);
-            case "flight": return hall.flight(a, b, c);
-            case "fall": return hall.fall(a, on);
-            case "bag": return hall.bag(a, b, on);
-            case "take": return hall.take(a);
-            case "give": return hall.give(a, b, on);
-            case "where": return hall.where(a);
-            case "place": return hall.place(a);
-            case "detail": return hall.detail(a);
-            case "steps": return hall.steps(a);
-            case "step": return hall.step(a, b, on);
-            case "tick": return hall.tick(a);
-            case "cell": return hall.cell(a, b);
-            case "holds": return hall.holds(a);
-            case "list": return hall.list(a, b);
-            case "far": return hall.far(a, b);
-            case "route": return hall.route(a, b);
-            case "flown": return hall.flown(a, b);
-            case "count": return hall.count(a);
-            case "keep": return hall.keep();
-            case "back": return hall.back();
-            default: throw new IllegalArgumentException(name);
-        }
+    private void call(String name, int a, int b, boolean on) {
+        both.call(name, a, b, 0, on);
     }
 
     /** Mostly 0 to n - 1, now and then a number that is none or an extreme one. */
@@ -114,13 +77,14 @@ public final class RandomRunsTest {
     }
 
     private void makePoint(int kind) {
-        call("point", random.nextInt(oddness) == 0 ? some(6) : kind, 1 + some(kind == 2 ? 9 : kind == 4 ? 4 : 20), 0, false);
+        int made = random.nextInt(oddness) == 0 ? some(6) : kind;
+        call("point", made, 1 + some(kind == 2 ? 9 : kind == 4 ? 4 : 20), false);
     }
 
     /** Mostly a point of the kind, if there is one. */
     private int pointOfKind(int kind) {
         int point = some(points());
-        for (int tries = 0; tries < 20 && call("as", point, kind, 0, false) == Check.KIND; tries++) {
+        for (int tries = 0; tries < 20 && point >= 0 && point < points() && model.kindOf(point) != kind; tries++) {
             point = some(points());
         }
         return point;
@@ -144,39 +108,37 @@ public final class RandomRunsTest {
 
     private void makeBelt() {
         int cells = 1 + (random.nextBoolean() ? some(2) : some(12));
-        call("belt", some(points()), some(points()), cells, false);
+        both.call("belt", some(points()), some(points()), cells, false);
     }
 
     private void makeFlight() {
         int opening = random.nextInt(4) == 0 ? some(5001) : some(40);
         int close = random.nextInt(4) == 0 ? some(5001) : opening + some(60);
-        call("flight", pointOfKind(5), opening, close, false);
+        both.call("flight", pointOfKind(5), opening, close, false);
     }
 
     private void makeBag() {
-        call("bag", pointOfKind(0), some(flights()), 0, random.nextInt(3) == 0);
+        call("bag", pointOfKind(0), some(flights()), random.nextInt(3) == 0);
     }
 
     private void act() {
-        int what = random.nextInt(100);
+        int what = random.nextInt(90);
         if (what < 25) {
-            call("tick", random.nextInt(10) == 0 ? some(101) : 1 + some(4), 0, 0, false);
+            call("tick", random.nextInt(10) == 0 ? some(101) : 1 + some(4), 0, false);
         } else if (what < 33) {
             makeBag();
         } else if (what < 39) {
-            call("fall", some(belts()), 0, 0, random.nextInt(3) == 0);
+            call("fall", some(belts()), 0, random.nextInt(3) == 0);
         } else if (what < 44) {
-            call("take", some(bags()), 0, 0, false);
+            call("take", some(bags()), 0, false);
         } else if (what < 49) {
-            call("give", some(bags()), pointOfKind(0), 0, random.nextBoolean());
+            call("give", some(bags()), pointOfKind(0), random.nextBoolean());
         } else if (what < 54) {
-            call("turns", some(belts()), some(random.nextBoolean() ? 3 : 10), 0, false);
+            call("turns", some(belts()), some(random.nextBoolean() ? 3 : 10), false);
         } else if (what < 57) {
             grow();
         } else if (what < 60) {
-            call(random.nextBoolean() ? "keep" : "back", 0, 0, 0, false);
-        } else if (what < 61) {
-            askAll();
+            call(random.nextBoolean() ? "keep" : "back", 0, 0, false);
         } else {
             ask(ASKS[random.nextInt(ASKS.length)]);
         }
@@ -198,46 +160,54 @@ public final class RandomRunsTest {
             : name.equals("flown") ? flights() : name.equals("count") ? 15 : bags();
         int m = name.equals("as") ? 6 : name.equals("far") ? points() : name.equals("route") ? flights()
             : name.equals("flown") ? 7 : name.equals("step") ? 31 : 5;
-        call(name, some(n), some(m), 0, random.nextBoolean());
+        call(name, some(n), some(m), random.nextBoolean());
     }
 
+    /** All questions in a random order, as many as calls are left. */
     private void askAll() {
+        List<Runnable> questions = new ArrayList<>();
         for (int what = 0; what <= 14; what++) {
-            call("count", what, 0, 0, false);
+            add(questions, "count", what, 0);
         }
         for (int p = 0; p < points(); p++) {
-            call("holds", p, 0, 0, false);
+            add(questions, "holds", p, 0);
             for (int i = -1; i < 8; i++) {
-                call("list", p, i, 0, false);
+                add(questions, "list", p, i);
             }
             for (int q = 0; q < points(); q++) {
-                call("far", p, q, 0, false);
-                call("route", p, q, 0, false);
+                add(questions, "far", p, q);
+                add(questions, "route", p, q);
             }
         }
         for (int b = 0; b < belts(); b++) {
             for (int cell = 0; cell < 12; cell++) {
-                call("cell", b, cell, 0, false);
+                add(questions, "cell", b, cell);
             }
         }
         for (int f = 0; f < flights(); f++) {
             for (int what = 0; what < 7; what++) {
-                call("flown", f, what, 0, false);
+                add(questions, "flown", f, what);
             }
         }
         for (int bag = 0; bag < bags(); bag++) {
-            askBag(bag);
+            addOfBag(questions, bag);
         }
+        Collections.shuffle(questions, random);
+        questions.forEach(Runnable::run);
     }
 
-    private void askBag(int bag) {
-        call("where", bag, 0, 0, false);
-        call("place", bag, 0, 0, false);
-        call("detail", bag, 0, 0, false);
-        call("steps", bag, 0, 0, false);
+    private void add(List<Runnable> questions, String name, int a, int b) {
+        boolean on = random.nextBoolean();
+        questions.add(() -> call(name, a, b, on));
+    }
+
+    private void addOfBag(List<Runnable> questions, int bag) {
+        add(questions, "where", bag, 0);
+        add(questions, "place", bag, 0);
+        add(questions, "detail", bag, 0);
+        add(questions, "steps", bag, 0);
         for (int i = 0; i < 31; i += 1 + random.nextInt(6)) {
-            call("step", bag, i, 0, true);
-            call("step", bag, i, 0, false);
+            add(questions, "step", bag, i);
         }
     }
 }

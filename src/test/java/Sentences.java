@@ -94,6 +94,10 @@ final class Sentences {
 
     /** The words must stand in the document, and each word of Terms and promises in some sentence here. */
     void compareWithDocument() throws IOException {
+        if (!Files.isReadable(Path.of(DOCUMENT))) {
+            System.out.println(DOCUMENT + " is not here: the words of the sentences are not compared with it");
+            return;
+        }
         String document = Files.readString(Path.of(DOCUMENT), StandardCharsets.UTF_8);
         compareChapter(TERMS, chapterOf(document, TERMS), true);
         compareChapter(WHAT_IT_IS, chapterOf(document, WHAT_IT_IS), false);
