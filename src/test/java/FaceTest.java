@@ -10,6 +10,8 @@ import java.util.ArrayList;
 import java.util.Arrays;
 import java.util.List;
 import java.util.TreeSet;
+import java.util.regex.Matcher;
+import java.util.regex.Pattern;
 
 /** The public face of the document, and those rules of LANGUAGE.md that a test can see. */
 public final class FaceTest {
@@ -30,11 +32,19 @@ public final class FaceTest {
     private static final List<String> IMPORTS = List.of("java.util.ArrayList", "java.util.List", "java.util.Arrays",
         "java.util.Iterator");
 
+    private static final List<String> LIBRARY = List.of("System.arraycopy", "Arrays.copyOf", "Arrays.copyOfRange",
+        "Arrays.fill", "List.of");
+
+    private static final int MOST_LINES = 60;
+
     public static void main(String[] args) throws IOException {
         face();
+        faceOfTheDocument();
         membersOfTheClass();
         classesInside();
         source();
+        libraryCalls();
+        lengthsOfMethods();
         Check.end();
     }
 
@@ -62,6 +72,19 @@ public final class FaceTest {
         Constructor<?>[] made = BagHall.class.getDeclaredConstructors();
         Check.holds("one constructor, public, of nothing", made.length == 1
             && Modifier.isPublic(made[0].getModifiers()) && made[0].getParameterCount() == 0);
+    }
+
+    private static void faceOfTheDocument() throws IOException {
+        if (!Document.isHere()) {
+            System.out.println(Document.PATH + " is not here: the face is not compared with it");
+            return;
+        }
+        List<String> calls = new ArrayList<>();
+        for (String call : Document.read().calls()) {
+            // The document names what a call is given, the class alone what it is of.
+            calls.add(call.replaceAll("(int|boolean) \\w+", "$1"));
+        }
+        Check.holds("the document's face " + calls, calls.equals(Arrays.asList(FACE)));
     }
 
     private static void membersOfTheClass() {
@@ -94,10 +117,18 @@ public final class FaceTest {
         }
     }
 
+    private static String program() throws IOException {
+        return Files.readString(Path.of("src/main/java/BagHall.java"), StandardCharsets.UTF_8);
+    }
+
+    private static String withoutComments(String text) {
+        return text.replaceAll("(?s)/\\*.*?\\*/", " ").replaceAll("//[^\n]*", " ");
+    }
+
     private static void source() throws IOException {
-        String text = Files.readString(Path.of("src/main/java/BagHall.java"), StandardCharsets.UTF_8);
+        String text = program();
         Check.holds("signs 1 to 127", text.chars().allMatch(sign -> sign > 0 && sign < 128));
-        String code = text.replaceAll("(?s)/\\*.*?\\*/", " ").replaceAll("//[^\n]*", " ");
+        String code = withoutComments(text);
         for (String line : code.split("\n")) {
             if (line.trim().startsWith("import ")) {
                 Check.holds(line + " is of rule 4", IMPORTS.contains(line.replace("import ", "").replace(";", "").trim()));
@@ -108,5 +139,38 @@ public final class FaceTest {
             String pattern = isWord ? "(?s).*\\b" + word.replace(".", "\\.") + "\\b.*" : "(?s).*" + word + ".*";
             Check.holds("without " + word, !code.matches(pattern));
         }
+    }
+
+    /** Rule 4: names of the library, each as a class and its function. */
+    private static void libraryCalls() throws IOException {
+        Pattern library = Pattern.compile("\\b(System|Math|Integer|Long|Arrays|List)\\.(\\w+)");
+        Matcher used = library.matcher(withoutComments(program()));
+        while (used.find()) {
+            String call = used.group(1) + "." + used.group(2);
+            Check.holds(call + " is no function that throws", !call.endsWith("Exact"));
+            Check.holds(call + " is of rule 4", LIBRARY.contains(call) || used.group(1).matches("Math|Integer|Long"));
+        }
+    }
+
+    /** Rule 11: a method ends with the first brace that stands as far in as its head. */
+    private static void lengthsOfMethods() throws IOException {
+        String[] lines = program().split("\n");
+        int start = -1;
+        for (int i = 0; i < lines.length; i++) {
+            if (beginsMethod(lines[i])) {
+                start = i;
+            } else if (start >= 0 && lines[i].trim().equals("}") && indent(lines[i]) == indent(lines[start])) {
+                Check.holds(lines[start].trim() + " is short", i - start < MOST_LINES);
+                start = -1;
+            }
+        }
+    }
+
+    private static boolean beginsMethod(String line) {
+        return line.matches(" {4}( {4})?[\\w ]+[\\w\\[\\]]+\\(.*\\) \\{") && !line.matches(" *(if|for|while|switch) .*");
+    }
+
+    private static int indent(String line) {
+        return line.length() - line.stripLeading().length();
     }
 }

@@ -1,7 +1,4 @@
 import java.io.IOException;
-import java.nio.charset.StandardCharsets;
-import java.nio.file.Files;
-import java.nio.file.Path;
 import java.util.ArrayList;
 import java.util.Arrays;
 import java.util.List;
@@ -11,7 +8,6 @@ import java.util.List;
  * promise that they bear on, and what must hold.
  */
 final class Sentences {
-    private static final String DOCUMENT = "../shared/DOC.md";
     private static final String TERMS = "Terms";
     private static final String WHAT_IT_IS = "What it is";
 
@@ -94,30 +90,16 @@ final class Sentences {
 
     /** The words must stand in the document, and each word of Terms and promises in some sentence here. */
     void compareWithDocument() throws IOException {
-        if (!Files.isReadable(Path.of(DOCUMENT))) {
-            System.out.println(DOCUMENT + " is not here: the words of the sentences are not compared with it");
+        if (!Document.isHere()) {
+            System.out.println(Document.PATH + " is not here: the words of the sentences are not compared with it");
             return;
         }
-        String document = Files.readString(Path.of(DOCUMENT), StandardCharsets.UTF_8);
-        compareChapter(TERMS, chapterOf(document, TERMS), true);
-        compareChapter(WHAT_IT_IS, chapterOf(document, WHAT_IT_IS), false);
+        Document document = Document.read();
+        compareChapter(TERMS, document.chapter(TERMS), true);
+        compareChapter(WHAT_IT_IS, document.chapter(WHAT_IT_IS), false);
         for (int promise = 1; promise <= 25; promise++) {
-            // The call itself stands between the first two backquotes.
-            String text = chapterOf(document, "Promise " + promise + ":").replaceFirst("^[^`]*`[^`]*`", "");
-            compareChapter("Promise " + promise, text, true);
+            compareChapter("Promise " + promise, document.promise(promise), true);
         }
-    }
-
-    private static String chapterOf(String document, String title) {
-        int start = document.indexOf("\n## " + title);
-        Check.holds("the document has a chapter " + title, start >= 0);
-        if (start < 0) {
-            return "";
-        }
-        int textStart = document.indexOf('\n', start + 1);
-        int end = document.indexOf("\n## ", textStart);
-        String text = document.substring(textStart, end < 0 ? document.length() : end);
-        return text.replace("```text", " ").replace("```", " ").replaceAll("\\s+", " ");
     }
 
     private void compareChapter(String chapter, String text, boolean whole) {
